@@ -156,7 +156,7 @@ public final class VirtualQueue {
     public int remaining(int ride, int slot) {
         needRide(ride);
         needSlot(slot);
-        return day.rides.plannedIn(ride, slot) - day.chargedTo(ride, slot);
+        return desk.freeIn(day, ride, slot);
     }
 
     // ---- tickets ----
@@ -609,6 +609,7 @@ public final class VirtualQueue {
         final int[] longest = new int[MOST_RIDES];
         int count;
 
+        /** Rides are added to a draft only, which never runs: what they have boarded is 0 there, and none is down. */
         void addRide(int persons, int percent, int slots, int from, int to) {
             if (count >= MOST_RIDES) {
                 return;
@@ -618,12 +619,6 @@ public final class VirtualQueue {
             length[count] = slots;
             first[count] = from;
             last[count] = to;
-            down[count] = false;
-            mergeBoarded[count] = 0;
-            standbyBoarded[count] = 0;
-            groups[count] = 0;
-            waits[count] = 0;
-            longest[count] = 0;
             count++;
         }
 
@@ -632,12 +627,8 @@ public final class VirtualQueue {
         }
 
         int plannedIn(int ride, int slot) {
-            return plannedWith(ride, slot, share[ride]);
-        }
-
-        int plannedWith(int ride, int slot, int percent) {
             boolean open = slot >= first[ride] && slot <= last[ride];
-            return open ? capacity[ride] * percent / 100 : 0;
+            return open ? capacity[ride] * share[ride] / 100 : 0;
         }
 
         int plannedInAll(int ride) {
@@ -775,7 +766,7 @@ public final class VirtualQueue {
 
         boolean hasActive(int ofParty, int forRide) {
             for (int ticket = 0; ticket < count; ticket++) {
-                if (isActiveOf(ticket, ofParty) && ride[ticket] == forRide) {
+                if (state[ticket] == ACTIVE && party[ticket] == ofParty && ride[ticket] == forRide) {
                     return true;
                 }
             }
@@ -1004,16 +995,6 @@ public final class VirtualQueue {
             return tickets.ride[ticket] == ride && tickets.state[ticket] != CANCELLED;
         }
 
-        int chargedTo(int ride, int slot) {
-            int persons = 0;
-            for (int ticket = 0; ticket < tickets.count; ticket++) {
-                if (isCharged(ticket, ride) && tickets.start[ticket] == slot) {
-                    persons += sizeOfTicket(ticket);
-                }
-            }
-            return persons;
-        }
-
         int chargedInAll(int ride) {
             int persons = 0;
             for (int ticket = 0; ticket < tickets.count; ticket++) {
@@ -1024,35 +1005,27 @@ public final class VirtualQueue {
             return persons;
         }
 
-        /** Fills a row with the persons charged to each slot of a ride, as if one ticket (or NONE) were not. */
-        void fillCharged(int[] row, int ride, int except) {
-            Arrays.fill(row, 0);
+        /** Fills a row with a ride's remaining capacities, as if one ticket (or NONE) were not charged. */
+        void fillFree(int[] row, int ride, int except) {
+            for (int slot = 0; slot < row.length; slot++) {
+                row[slot] = rides.plannedIn(ride, slot);
+            }
             for (int ticket = 0; ticket < tickets.count; ticket++) {
                 int slot = tickets.start[ticket];
                 if (ticket != except && isCharged(ticket, ride) && slot >= 0 && slot < row.length) {
-                    row[slot] += sizeOfTicket(ticket);
+                    row[slot] -= sizeOfTicket(ticket);
                 }
             }
         }
 
-        void fillFree(int[] row, int ride, int except) {
-            fillCharged(row, ride, except);
-            for (int slot = 0; slot < row.length; slot++) {
-                row[slot] = rides.plannedIn(ride, slot) - row[slot];
-            }
-        }
-
-        /** Fills a row with the slots that a party's ACTIVE tickets block, as if one ticket (or NONE) did not. */
-        void fillTaken(boolean[] row, int party, int except) {
+        /** Fills a row with the slots that ACTIVE tickets of a party (and another, or NONE) block, all but one (or NONE). */
+        void fillTaken(boolean[] row, int party, int other, int except) {
             for (int slot = 0; slot < row.length; slot++) {
                 row[slot] = false;
             }
-            markTaken(row, party, except);
-        }
-
-        void markTaken(boolean[] row, int party, int except) {
             for (int ticket = 0; ticket < tickets.count; ticket++) {
-                if (ticket != except && tickets.isActiveOf(ticket, party)) {
+                boolean blocks = tickets.isActiveOf(ticket, party) || tickets.isActiveOf(ticket, other);
+                if (blocks && ticket != except) {
                     int to = Math.min(tickets.end[ticket], row.length - 1);
                     for (int slot = Math.max(tickets.start[ticket], 0); slot <= to; slot++) {
                         row[slot] = true;
@@ -1205,7 +1178,7 @@ public final class VirtualQueue {
                 return FULL;
             }
             day.fillFree(free, ride, NONE);
-            day.fillTaken(taken, party, NONE);
+            day.fillTaken(taken, party, NONE, NONE);
             return firstStart(day, ride, day.guests.size[party], earliest, day.guests.horizonOf(party));
         }
 
@@ -1221,8 +1194,7 @@ public final class VirtualQueue {
                 return FULL;
             }
             day.fillFree(free, ride, NONE);
-            day.fillTaken(taken, party, NONE);
-            day.markTaken(taken, other, NONE);
+            day.fillTaken(taken, party, other, NONE);
             int persons = day.guests.size[party] + day.guests.size[other];
             int horizon = Math.min(day.guests.horizonOf(party), day.guests.horizonOf(other));
             int start = firstStart(day, ride, persons, earliest, horizon);
@@ -1244,7 +1216,7 @@ public final class VirtualQueue {
                 return RIDE_DOWN;
             }
             day.fillFree(free, ride, ticket);
-            day.fillTaken(taken, party, ticket);
+            day.fillTaken(taken, party, NONE, ticket);
             int start = firstStart(day, ride, day.guests.size[party], earliest, day.guests.horizonOf(party));
             if (start < 0) {
                 return start;
@@ -1272,7 +1244,7 @@ public final class VirtualQueue {
                 return FULL;
             }
             day.fillFree(free, ride, ticket);
-            day.fillTaken(taken, party, ticket);
+            day.fillTaken(taken, party, NONE, ticket);
             int start = firstStart(day, ride, day.guests.size[party], earliest, day.guests.horizonOf(party));
             if (start < 0) {
                 return start;
@@ -1300,14 +1272,21 @@ public final class VirtualQueue {
         }
 
         int changeShare(Day day, int ride, int share) {
-            day.fillCharged(free, ride, NONE);
+            // Tickets are charged only to slots from the first to the last, and this would be planned there.
+            int planned = day.rides.capacity[ride] * share / 100;
+            day.fillFree(free, ride, NONE);
             for (int slot = day.now; slot < SLOTS; slot++) {
-                if (free[slot] > day.rides.plannedWith(ride, slot, share)) {
+                if (chargedTo(day, ride, slot) > planned) {
                     return NOT_ALLOWED;
                 }
             }
             day.rides.share[ride] = share;
             return serve(day, ride);
+        }
+
+        int freeIn(Day day, int ride, int slot) {
+            day.fillFree(free, ride, NONE);
+            return slot >= 0 && slot < SLOTS ? free[slot] : 0;
         }
 
         int freeFromNow(Day day, int ride) {
@@ -1320,16 +1299,22 @@ public final class VirtualQueue {
         }
 
         int slotOfMostCharged(Day day, int ride) {
-            day.fillCharged(free, ride, NONE);
+            day.fillFree(free, ride, NONE);
             int peak = NONE;
             int most = 0;
             for (int slot = 0; slot < SLOTS; slot++) {
-                if (free[slot] > most) {
-                    most = free[slot];
+                int charged = chargedTo(day, ride, slot);
+                if (charged > most) {
+                    most = charged;
                     peak = slot;
                 }
             }
             return peak;
+        }
+
+        /** What is charged to a slot of the ride for which the row free was filled. */
+        private int chargedTo(Day day, int ride, int slot) {
+            return day.rides.plannedIn(ride, slot) - free[slot];
         }
 
         private int refusal(Day day, int party, int ride) {
@@ -1406,7 +1391,7 @@ public final class VirtualQueue {
 
         /** Leaves the best order in best and its end in bestEnd, NONE if there is no order. */
         void plan(Day day, int party, int rides) {
-            day.fillTaken(taken, party, NONE);
+            day.fillTaken(taken, party, NONE, NONE);
             for (int ride = 0; ride < day.rides.count; ride++) {
                 if ((rides & 1 << ride) != 0) {
                     fillNextStart(day, ride, day.guests.size[party]);
@@ -1616,18 +1601,21 @@ public final class VirtualQueue {
             start = position;
             if (position >= length) {
                 kind = END;
-            } else if (isLetter()) {
+                return;
+            }
+            byte sign = text[position];
+            if (sign >= 'a' && sign <= 'z') {
                 passLetters();
-            } else if (isDigit()) {
+            } else if (sign >= '0' && sign <= '9') {
                 passDigits();
             } else {
-                kind = text[position] == ';' ? SEMICOLON : NO_TOKEN;
+                kind = sign == ';' ? SEMICOLON : NO_TOKEN;
                 position++;
             }
         }
 
         private void passLetters() {
-            while (isLetter()) {
+            while (position < length && text[position] >= 'a' && text[position] <= 'z') {
                 position++;
             }
             kind = position - start <= MOST_LETTERS ? WORD : NO_TOKEN;
@@ -1635,19 +1623,11 @@ public final class VirtualQueue {
 
         private void passDigits() {
             value = 0;
-            while (isDigit()) {
+            while (position < length && text[position] >= '0' && text[position] <= '9') {
                 value = value * 10 + text[position] - '0';
                 position++;
             }
             kind = position - start <= MOST_DIGITS ? NUMBER : NO_TOKEN;
-        }
-
-        private boolean isLetter() {
-            return position < length && text[position] >= 'a' && text[position] <= 'z';
-        }
-
-        private boolean isDigit() {
-            return position < length && text[position] >= '0' && text[position] <= '9';
         }
     }
 

@@ -107,6 +107,14 @@ public final class InputTest {
         parkFails("rides 1 1 1 1 1;", 1, 0);
         parkFails("Ride 1 1 1 1 1;", 1, 0);
         parkFails("rid 1 1 1 1 1;", 1, 0);
+        parkFails("aride 1 1 1 1 1;", 1, 0);
+        parkFails("ridez 1 1 1 1 1;", 1, 0);
+        parkFails("ride{ 1 1 1 1 1;", 1, 4);
+        parkFails("ride` 1 1 1 1 1;", 1, 4);
+        parkFails("ride 1: 1 1 1 1;", 1, 6);
+        parkFails("ride 1/ 1 1 1 1;", 1, 6);
+        parkFails("1ride 1 1 1 1 1;", 1, 0);
+        parkFails("ride 1 1 1 1 1 ride;", 1, 15);
         parkFails("at 1 break 0;", 1, 0);
         parkFails("ride", 1, 4);
         parkFails("ride  \n", 1, 7);

@@ -196,6 +196,9 @@ public final class IssueTest {
         Checks.due("P19 too many persons", q.issueJoint(0, 3, 1, 1), NO_WINDOW);
         Checks.due("P19 just enough places", q.issueJoint(0, 1, 1, 1), 4);
         Checks.due("P19 behind 4-5, and slot 6 has 9 places", q.ticketStart(4), 7);
+        VirtualQueue zero = Checks.park("ride 20 50 2 0 143;tier 3 20 0 0;party 0 4;party 0 6;");
+        Checks.due("P19 slot 0", zero.issueJoint(0, 1, 0, 0), 0);
+        Checks.due("P19 slot 0", zero.ticketStart(1), 0);
         VirtualQueue both = Checks.park("ride 20 50 2 0 143;ride 20 50 4 0 143;ride 30 50 1 0 143;tier 3 20 0 0;tier 3 10 0 0;"
                 + "party 0 4;party 1 6;party 0 9;");
         both.issue(0, 0, 2);

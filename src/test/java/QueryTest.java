@@ -116,6 +116,10 @@ public final class QueryTest {
     }
 
     private static void usage() {
+        VirtualQueue day = Checks.park("ride 20 50 2 0 143;tier 5 144 0 0;party 0 9;");
+        day.issue(0, 0, 0);
+        Checks.due("P54 the whole day", day.usage(0), 9.0 / 1440);
+        Checks.due("P52 the whole day", day.capacityLeft(0), 1431);
         VirtualQueue q = Checks.park("ride 20 50 2 10 19;ride 1 99 1 0 143;tier 5 144 0 0;party 0 2;party 0 3;");
         Checks.due("P54 none", q.usage(0), 0.0);
         Checks.due("P54 nothing planned", Checks.result(() -> q.usage(1)), "ArithmeticException");
@@ -172,6 +176,10 @@ public final class QueryTest {
         Checks.due("P55 blocked", q.bestFinish(0, 4), 6);
         q.advance(141);
         Checks.due("P55 the day is over", q.bestFinish(0, 1), NO_WINDOW);
+        VirtualQueue exact = Checks.park("ride 5 100 2 0 143;ride 4 100 2 0 143;tier 1 1 48 0;party 0 5;");
+        Checks.due("P56 a plan of its own", exact.bestOrder(0, 1, 0), 0);
+        Checks.due("P55 just enough room", exact.bestFinish(0, 1), 1);
+        Checks.due("P55 too little room", exact.bestFinish(0, 2), NO_WINDOW);
         VirtualQueue end = Checks.park("ride 20 50 24 143 143;ride 20 50 24 130 143;tier 1 1 48 0;party 0 5;");
         Checks.due("P55 beyond 143", end.bestFinish(0, 1), 166);
         Checks.due("P55 too late for the second", end.bestFinish(0, 3), NO_WINDOW);

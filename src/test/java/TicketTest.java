@@ -47,6 +47,8 @@ public final class TicketTest {
         own.issue(0, 0, 10);
         own.issue(0, 1, 20);
         Checks.due("P20 other tickets of the party block", own.moveTicket(0, 18), 23);
+        Checks.due("P20 slot 0", own.moveTicket(0, 0), 0);
+        Checks.due("P20 slot 0", Checks.ticket(own, 0), "0 0 0-2 state 0 extension 0");
     }
 
     private static void moveIsRefused() {
@@ -96,6 +98,8 @@ public final class TicketTest {
         own.issue(0, 1, 20);
         Checks.due("P21 other tickets of the party block", own.exchange(0, 2, 19), 2);
         Checks.due("P21 other tickets of the party block", own.ticketStart(2), 23);
+        Checks.due("P21 slot 0", own.exchange(2, 0, 0), 3);
+        Checks.due("P21 slot 0", own.ticketStart(3), 0);
     }
 
     private static void exchangeIsRefused() {
