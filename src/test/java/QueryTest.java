@@ -176,10 +176,10 @@ public final class QueryTest {
         Checks.due("P55 blocked", q.bestFinish(0, 4), 6);
         q.advance(141);
         Checks.due("P55 the day is over", q.bestFinish(0, 1), NO_WINDOW);
-        VirtualQueue exact = Checks.park("ride 5 100 2 0 143;ride 4 100 2 0 143;tier 1 1 48 0;party 0 5;");
-        Checks.due("P56 a plan of its own", exact.bestOrder(0, 1, 0), 0);
-        Checks.due("P55 just enough room", exact.bestFinish(0, 1), 1);
-        Checks.due("P55 too little room", exact.bestFinish(0, 2), NO_WINDOW);
+        VirtualQueue exact = Checks.park("ride 4 100 2 0 143;ride 5 100 2 0 143;tier 1 1 48 0;party 0 5;");
+        Checks.due("P56 a plan of its own", exact.bestOrder(0, 2, 0), 1);
+        Checks.due("P55 just enough room", exact.bestFinish(0, 2), 1);
+        Checks.due("P55 too little room", exact.bestFinish(0, 1), NO_WINDOW);
         VirtualQueue end = Checks.park("ride 20 50 24 143 143;ride 20 50 24 130 143;tier 1 1 48 0;party 0 5;");
         Checks.due("P55 beyond 143", end.bestFinish(0, 1), 166);
         Checks.due("P55 too late for the second", end.bestFinish(0, 3), NO_WINDOW);
