@@ -126,7 +126,7 @@ public final class VirtualQueue {
         return day.now;
     }
 
-    public int addParty(int tier, int size) {
+    public int addParty(int tier, int size) throws IndexOutOfBoundsException, IllegalArgumentException {
         if (tier < 0 || tier >= day.guests.tierCount) {
             throw new IndexOutOfBoundsException("no such tier");
         }
@@ -137,23 +137,23 @@ public final class VirtualQueue {
         return day.guests.addGuests(tier, size);
     }
 
-    public int partySize(int party) {
+    public int partySize(int party) throws IndexOutOfBoundsException {
         needParty(party);
         return day.guests.size[party];
     }
 
-    public int partyTier(int party) {
+    public int partyTier(int party) throws IndexOutOfBoundsException {
         needParty(party);
         return day.guests.tier[party];
     }
 
-    public int planned(int ride, int slot) {
+    public int planned(int ride, int slot) throws IndexOutOfBoundsException, IllegalArgumentException {
         needRide(ride);
         needSlot(slot);
         return day.rides.plannedIn(ride, slot);
     }
 
-    public int remaining(int ride, int slot) {
+    public int remaining(int ride, int slot) throws IndexOutOfBoundsException, IllegalArgumentException {
         needRide(ride);
         needSlot(slot);
         return desk.freeIn(day, ride, slot);
@@ -161,21 +161,23 @@ public final class VirtualQueue {
 
     // ---- tickets ----
 
-    public int issue(int party, int ride, int earliest) {
+    public int issue(int party, int ride, int earliest) throws IndexOutOfBoundsException, IllegalArgumentException {
         needParty(party);
         needRide(ride);
         needSlot(earliest);
         return desk.issueTo(day, party, ride, earliest);
     }
 
-    public int nextWindow(int party, int ride, int earliest) {
+    public int nextWindow(int party, int ride, int earliest)
+            throws IndexOutOfBoundsException, IllegalArgumentException {
         needParty(party);
         needRide(ride);
         needSlot(earliest);
         return desk.startFor(day, party, ride, earliest);
     }
 
-    public int issueJoint(int party, int other, int ride, int earliest) {
+    public int issueJoint(int party, int other, int ride, int earliest)
+            throws IndexOutOfBoundsException, IllegalArgumentException {
         needParty(party);
         needParty(other);
         needRide(ride);
@@ -186,30 +188,30 @@ public final class VirtualQueue {
         return desk.issueToBoth(day, party, other, ride, earliest);
     }
 
-    public int moveTicket(int ticket, int earliest) {
+    public int moveTicket(int ticket, int earliest) throws IndexOutOfBoundsException, IllegalArgumentException {
         needTicket(ticket);
         needSlot(earliest);
         return desk.move(day, ticket, earliest);
     }
 
-    public int exchange(int ticket, int ride, int earliest) {
+    public int exchange(int ticket, int ride, int earliest) throws IndexOutOfBoundsException, IllegalArgumentException {
         needTicket(ticket);
         needRide(ride);
         needSlot(earliest);
         return desk.swap(day, ticket, ride, earliest);
     }
 
-    public int cancel(int ticket) {
+    public int cancel(int ticket) throws IndexOutOfBoundsException {
         needTicket(ticket);
         return desk.giveBack(day, ticket);
     }
 
-    public boolean redeem(int ticket) {
+    public boolean redeem(int ticket) throws IndexOutOfBoundsException {
         needTicket(ticket);
         return day.admit(ticket);
     }
 
-    public boolean redeemOpen(int ticket, int ride) {
+    public boolean redeemOpen(int ticket, int ride) throws IndexOutOfBoundsException {
         needTicket(ticket);
         needRide(ride);
         return day.admitOpen(ticket, ride);
@@ -219,37 +221,37 @@ public final class VirtualQueue {
         return day.tickets.count;
     }
 
-    public int ticketParty(int ticket) {
+    public int ticketParty(int ticket) throws IndexOutOfBoundsException {
         needTicket(ticket);
         return day.tickets.party[ticket];
     }
 
-    public int ticketRide(int ticket) {
+    public int ticketRide(int ticket) throws IndexOutOfBoundsException {
         needTicket(ticket);
         return day.tickets.ride[ticket];
     }
 
-    public int ticketStart(int ticket) {
+    public int ticketStart(int ticket) throws IndexOutOfBoundsException {
         needTicket(ticket);
         return day.tickets.start[ticket];
     }
 
-    public int ticketEnd(int ticket) {
+    public int ticketEnd(int ticket) throws IndexOutOfBoundsException {
         needTicket(ticket);
         return day.tickets.end[ticket];
     }
 
-    public int ticketState(int ticket) {
+    public int ticketState(int ticket) throws IndexOutOfBoundsException {
         needTicket(ticket);
         return day.tickets.state[ticket];
     }
 
-    public int ticketExtension(int ticket) {
+    public int ticketExtension(int ticket) throws IndexOutOfBoundsException {
         needTicket(ticket);
         return day.tickets.extension[ticket];
     }
 
-    public int countTickets(int party, int state) {
+    public int countTickets(int party, int state) throws IndexOutOfBoundsException, IllegalArgumentException {
         needParty(party);
         if (state < ACTIVE || state > OPEN) {
             throw new IllegalArgumentException("no such state");
@@ -257,26 +259,26 @@ public final class VirtualQueue {
         return day.tickets.countOf(party, state);
     }
 
-    public int itinerary(int party, int index) {
+    public int itinerary(int party, int index) throws IndexOutOfBoundsException {
         needParty(party);
         return day.tickets.activeAt(party, index);
     }
 
     // ---- waitlists ----
 
-    public int joinWaitlist(int party, int ride) {
+    public int joinWaitlist(int party, int ride) throws IndexOutOfBoundsException {
         needParty(party);
         needRide(ride);
         return day.putOnWaitlist(party, ride);
     }
 
-    public boolean leaveWaitlist(int party, int ride) {
+    public boolean leaveWaitlist(int party, int ride) throws IndexOutOfBoundsException {
         needParty(party);
         needRide(ride);
         return day.waitlists.remove(ride, party);
     }
 
-    public int waitlistAt(int ride, int index) {
+    public int waitlistAt(int ride, int index) throws IndexOutOfBoundsException {
         needRide(ride);
         if (index < 0 || index >= day.waitlists.count[ride]) {
             return NONE;
@@ -286,23 +288,23 @@ public final class VirtualQueue {
 
     // ---- lines and the passing of time ----
 
-    public int joinStandby(int ride, int size) {
+    public int joinStandby(int ride, int size) throws IndexOutOfBoundsException, IllegalArgumentException {
         needRide(ride);
         needSize(size);
         return day.putOnStandby(ride, size);
     }
 
-    public int standbyPersons(int ride) {
+    public int standbyPersons(int ride) throws IndexOutOfBoundsException {
         needRide(ride);
         return day.standby[ride].persons();
     }
 
-    public int mergePersons(int ride) {
+    public int mergePersons(int ride) throws IndexOutOfBoundsException {
         needRide(ride);
         return day.merge[ride].persons();
     }
 
-    public int advance(int slots) {
+    public int advance(int slots) throws IllegalArgumentException {
         needSlotsLeft(slots);
         for (int passed = 0; passed < slots; passed++) {
             day.pass();
@@ -310,22 +312,22 @@ public final class VirtualQueue {
         return day.now;
     }
 
-    public boolean isDown(int ride) {
+    public boolean isDown(int ride) throws IndexOutOfBoundsException {
         needRide(ride);
         return day.rides.down[ride];
     }
 
-    public boolean breakDown(int ride) {
+    public boolean breakDown(int ride) throws IndexOutOfBoundsException {
         needRide(ride);
         return day.rides.takeDown(ride);
     }
 
-    public int repair(int ride) {
+    public int repair(int ride) throws IndexOutOfBoundsException {
         needRide(ride);
         return desk.putBack(day, ride);
     }
 
-    public int setShare(int ride, int share) {
+    public int setShare(int ride, int share) throws IndexOutOfBoundsException, IllegalArgumentException {
         needRide(ride);
         if (share < 0 || share > MOST_SHARE) {
             throw new IllegalArgumentException("share is out of range");
@@ -343,12 +345,12 @@ public final class VirtualQueue {
 
     // ---- queries ----
 
-    public int boarded(int ride, boolean merge) {
+    public int boarded(int ride, boolean merge) throws IndexOutOfBoundsException {
         needRide(ride);
         return merge ? day.rides.mergeBoarded[ride] : day.rides.standbyBoarded[ride];
     }
 
-    public double averageWait(int ride) {
+    public double averageWait(int ride) throws IndexOutOfBoundsException, ArithmeticException {
         needRide(ride);
         int groups = day.rides.groups[ride];
         if (groups == 0) {
@@ -357,24 +359,24 @@ public final class VirtualQueue {
         return (double) day.rides.waits[ride] / groups;
     }
 
-    public int longestWait(int ride) {
+    public int longestWait(int ride) throws IndexOutOfBoundsException {
         needRide(ride);
         return day.rides.longest[ride];
     }
 
-    public int forecastStandby(int ride, int size) {
+    public int forecastStandby(int ride, int size) throws IndexOutOfBoundsException, IllegalArgumentException {
         needRide(ride);
         needSize(size);
         return day.waitOfNewGroup(ride, size);
     }
 
-    public int expectedReturns(int ride, int slot) {
+    public int expectedReturns(int ride, int slot) throws IndexOutOfBoundsException, IllegalArgumentException {
         needRide(ride);
         needSlot(slot);
         return day.returnsIn(ride, slot);
     }
 
-    public double expiredPart(int ride) {
+    public double expiredPart(int ride) throws IndexOutOfBoundsException, ArithmeticException {
         needRide(ride);
         int expired = day.tickets.countFor(ride, EXPIRED);
         int ended = expired + day.tickets.countFor(ride, USED);
@@ -384,17 +386,17 @@ public final class VirtualQueue {
         return (double) expired / ended;
     }
 
-    public int capacityLeft(int ride) {
+    public int capacityLeft(int ride) throws IndexOutOfBoundsException {
         needRide(ride);
         return desk.freeFromNow(day, ride);
     }
 
-    public int peakSlot(int ride) {
+    public int peakSlot(int ride) throws IndexOutOfBoundsException {
         needRide(ride);
         return desk.slotOfMostCharged(day, ride);
     }
 
-    public double usage(int ride) {
+    public double usage(int ride) throws IndexOutOfBoundsException, ArithmeticException {
         needRide(ride);
         int all = day.rides.plannedInAll(ride);
         if (all == 0) {
@@ -403,14 +405,14 @@ public final class VirtualQueue {
         return (double) day.chargedInAll(ride) / all;
     }
 
-    public int bestFinish(int party, int rides) {
+    public int bestFinish(int party, int rides) throws IndexOutOfBoundsException, IllegalArgumentException {
         needParty(party);
         needPlannable(rides);
         planner.plan(day, party, rides);
         return planner.bestEnd == NONE ? NO_WINDOW : planner.bestEnd;
     }
 
-    public int bestOrder(int party, int rides, int index) {
+    public int bestOrder(int party, int rides, int index) throws IndexOutOfBoundsException, IllegalArgumentException {
         needParty(party);
         needPlannable(rides);
         planner.plan(day, party, rides);
@@ -420,19 +422,19 @@ public final class VirtualQueue {
         return planner.best[index];
     }
 
-    public int mostServed(int ride) {
+    public int mostServed(int ride) throws IndexOutOfBoundsException {
         needRide(ride);
         return Integer.bitCount(planner.largestSet(day, ride));
     }
 
-    public int servedSet(int ride) {
+    public int servedSet(int ride) throws IndexOutOfBoundsException {
         needRide(ride);
         return planner.largestSet(day, ride);
     }
 
     // ---- script ----
 
-    public int runScript(int slots) {
+    public int runScript(int slots) throws IllegalArgumentException {
         needSlotsLeft(slots);
         int succeeded = 0;
         for (int passed = 0; passed < slots; passed++) {
@@ -473,7 +475,7 @@ public final class VirtualQueue {
 
     // ---- formatted text ----
 
-    public int formatItinerary(int party) {
+    public int formatItinerary(int party) throws IndexOutOfBoundsException {
         needParty(party);
         formattedLength = 0;
         int stops = day.tickets.countOf(party, ACTIVE);

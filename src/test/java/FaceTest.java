@@ -1,114 +1,222 @@
-import java.lang.reflect.Array;
+import java.io.IOException;
 import java.lang.reflect.Constructor;
+import java.lang.reflect.Executable;
 import java.lang.reflect.Field;
 import java.lang.reflect.Method;
 import java.lang.reflect.Modifier;
-import java.util.IdentityHashMap;
-import java.util.Map;
+import java.lang.reflect.Parameter;
+import java.nio.file.Files;
+import java.nio.file.Path;
+import java.util.Set;
+import java.util.StringJoiner;
 import java.util.TreeSet;
 
-/** The public face, the constants, and the room that an object takes. */
+/** The public face: each member declared just as the document writes it, its throws clause included, and no other. */
 public final class FaceTest {
-    private static final String METHODS = "addParty advance appendInput averageWait bestFinish bestOrder boarded breakDown cancel "
-            + "capacityLeft countTickets errorCode errorPosition exchange expectedReturns expiredPart forecastStandby "
-            + "formatItinerary formattedByte isDown issue issueJoint itinerary joinStandby joinWaitlist leaveWaitlist "
-            + "loadPark loadScript longestWait mergePersons mostServed moveTicket nextWindow now partyCount partySize "
-            + "partyTier peakSlot planned redeem redeemOpen remaining repair restoreSnapshot rideCount runScript "
-            + "saveSnapshot scriptLength servedSet setExtensionLimit setShare standbyPersons ticketCount ticketEnd "
-            + "ticketExtension ticketParty ticketRide ticketStart ticketState tierCount truncateInput usage waitlistAt";
-    private static final String CONSTANTS = "ACTIVE=0 CANCELLED=3 DUPLICATE=-3 EXPIRED=2 FULL=-6 NONE=-1 NOT_ALLOWED=-2 NO_WINDOW=-4 "
-            + "OPEN=4 RIDE_DOWN=-5 TEXT_ERROR=-7 USED=1";
+    /** "The public face" of the document, word for word. */
+    private static final String FACE = """
+            public final class VirtualQueue {
+                public static final int NONE = -1;
+                public static final int NOT_ALLOWED = -2;
+                public static final int DUPLICATE = -3;
+                public static final int NO_WINDOW = -4;
+                public static final int RIDE_DOWN = -5;
+                public static final int FULL = -6;
+                public static final int TEXT_ERROR = -7;
+                public static final int ACTIVE = 0;
+                public static final int USED = 1;
+                public static final int EXPIRED = 2;
+                public static final int CANCELLED = 3;
+                public static final int OPEN = 4;
+                public VirtualQueue();
+                public int appendInput(int w0, int w1, int w2, int w3, int w4);
+                public int truncateInput(int length);
+                public int loadPark();
+                public int loadScript();
+                public int errorCode();
+                public int errorPosition();
+                public int rideCount();
+                public int tierCount();
+                public int partyCount();
+                public int now();
+                public int addParty(int tier, int size) throws IndexOutOfBoundsException, IllegalArgumentException;
+                public int partySize(int party) throws IndexOutOfBoundsException;
+                public int partyTier(int party) throws IndexOutOfBoundsException;
+                public int planned(int ride, int slot) throws IndexOutOfBoundsException, IllegalArgumentException;
+                public int remaining(int ride, int slot) throws IndexOutOfBoundsException, IllegalArgumentException;
+                public int issue(int party, int ride, int earliest) throws IndexOutOfBoundsException, IllegalArgumentException;
+                public int nextWindow(int party, int ride, int earliest) throws IndexOutOfBoundsException, IllegalArgumentException;
+                public int issueJoint(int party, int other, int ride, int earliest) throws IndexOutOfBoundsException, IllegalArgumentException;
+                public int moveTicket(int ticket, int earliest) throws IndexOutOfBoundsException, IllegalArgumentException;
+                public int exchange(int ticket, int ride, int earliest) throws IndexOutOfBoundsException, IllegalArgumentException;
+                public int cancel(int ticket) throws IndexOutOfBoundsException;
+                public boolean redeem(int ticket) throws IndexOutOfBoundsException;
+                public boolean redeemOpen(int ticket, int ride) throws IndexOutOfBoundsException;
+                public int ticketCount();
+                public int ticketParty(int ticket) throws IndexOutOfBoundsException;
+                public int ticketRide(int ticket) throws IndexOutOfBoundsException;
+                public int ticketStart(int ticket) throws IndexOutOfBoundsException;
+                public int ticketEnd(int ticket) throws IndexOutOfBoundsException;
+                public int ticketState(int ticket) throws IndexOutOfBoundsException;
+                public int ticketExtension(int ticket) throws IndexOutOfBoundsException;
+                public int countTickets(int party, int state) throws IndexOutOfBoundsException, IllegalArgumentException;
+                public int itinerary(int party, int index) throws IndexOutOfBoundsException;
+                public int joinWaitlist(int party, int ride) throws IndexOutOfBoundsException;
+                public boolean leaveWaitlist(int party, int ride) throws IndexOutOfBoundsException;
+                public int waitlistAt(int ride, int index) throws IndexOutOfBoundsException;
+                public int joinStandby(int ride, int size) throws IndexOutOfBoundsException, IllegalArgumentException;
+                public int standbyPersons(int ride) throws IndexOutOfBoundsException;
+                public int mergePersons(int ride) throws IndexOutOfBoundsException;
+                public int advance(int slots) throws IllegalArgumentException;
+                public boolean isDown(int ride) throws IndexOutOfBoundsException;
+                public boolean breakDown(int ride) throws IndexOutOfBoundsException;
+                public int repair(int ride) throws IndexOutOfBoundsException;
+                public int setShare(int ride, int share) throws IndexOutOfBoundsException, IllegalArgumentException;
+                public boolean setExtensionLimit(int limit);
+                public int boarded(int ride, boolean merge) throws IndexOutOfBoundsException;
+                public double averageWait(int ride) throws IndexOutOfBoundsException, ArithmeticException;
+                public int longestWait(int ride) throws IndexOutOfBoundsException;
+                public int forecastStandby(int ride, int size) throws IndexOutOfBoundsException, IllegalArgumentException;
+                public int expectedReturns(int ride, int slot) throws IndexOutOfBoundsException, IllegalArgumentException;
+                public double expiredPart(int ride) throws IndexOutOfBoundsException, ArithmeticException;
+                public int capacityLeft(int ride) throws IndexOutOfBoundsException;
+                public int peakSlot(int ride) throws IndexOutOfBoundsException;
+                public double usage(int ride) throws IndexOutOfBoundsException, ArithmeticException;
+                public int bestFinish(int party, int rides) throws IndexOutOfBoundsException, IllegalArgumentException;
+                public int bestOrder(int party, int rides, int index) throws IndexOutOfBoundsException, IllegalArgumentException;
+                public int mostServed(int ride) throws IndexOutOfBoundsException;
+                public int servedSet(int ride) throws IndexOutOfBoundsException;
+                public int runScript(int slots) throws IllegalArgumentException;
+                public int scriptLength();
+                public boolean saveSnapshot(int slot);
+                public boolean restoreSnapshot(int slot);
+                public int formatItinerary(int party) throws IndexOutOfBoundsException;
+                public int formattedByte(int index);
+            }
+            """;
 
-    // The room of a run has some 7.3 million elements and 600,000 objects for at most 512 calls.
-    private static final int MOST_ELEMENTS = 7_300_000 / 512;
-    private static final int MOST_OBJECTS = 600_000 / 512;
+    private static final Path DOCUMENT = Path.of("../shared/DOC.md");
 
-    private int objects;
-    private int elements;
-    private final Map<Object, Object> counted = new IdentityHashMap<>();
-
-    public static void main(String[] args) throws ReflectiveOperationException {
-        face();
-        names();
-        room();
+    public static void main(String[] args) throws ReflectiveOperationException, IOException {
+        theDocument();
+        theClass();
+        members();
+        classesInside();
+        privateNames();
         Checks.end();
     }
 
-    private static void face() throws ReflectiveOperationException {
+    private static void theDocument() throws IOException {
+        if (Files.exists(DOCUMENT)) {
+            Checks.due("the document has this face", Files.readString(DOCUMENT).contains("```java\n" + FACE + "```"), true);
+        }
+    }
+
+    private static void theClass() {
         Class<?> face = VirtualQueue.class;
-        Checks.due("final and public", face.getModifiers(), Modifier.PUBLIC | Modifier.FINAL);
-        TreeSet<String> methods = new TreeSet<>();
-        for (Method m : face.getDeclaredMethods()) {
-            if (!Modifier.isPrivate(m.getModifiers())) {
-                methods.add(m.getName());
-                Checks.due(m.getName() + " is public and no more", m.getModifiers(), Modifier.PUBLIC);
-            }
-        }
-        Checks.due("methods", String.join(" ", methods), METHODS);
-        TreeSet<String> constants = new TreeSet<>();
-        for (Field f : face.getDeclaredFields()) {
-            if (!Modifier.isPrivate(f.getModifiers())) {
-                Checks.due(f.getName(), f.getModifiers(), Modifier.PUBLIC | Modifier.STATIC | Modifier.FINAL);
-                constants.add(f.getName() + "=" + f.get(null));
-            }
-        }
-        Checks.due("constants", String.join(" ", constants), CONSTANTS);
-        Constructor<?>[] constructors = face.getDeclaredConstructors();
-        Checks.due("constructors", constructors.length, 1);
-        Checks.due("constructor", constructors[0].toString(), "public VirtualQueue()");
+        Checks.due("the class", Modifier.toString(face.getModifiers()) + " class " + face.getName(), "public final class VirtualQueue");
+        Checks.due("the class above it", face.getSuperclass(), Object.class);
+        Checks.due("its interfaces", face.getInterfaces().length, 0);
+        Checks.due("its type parameters", face.getTypeParameters().length, 0);
     }
 
-    /** No other method bears the name of a public one, and the classes inside are static. */
-    private static void names() {
-        TreeSet<String> face = new TreeSet<>(java.util.List.of(METHODS.split(" ")));
+    /** All that is not private, written as the document writes it, is what the document has. */
+    private static void members() throws ReflectiveOperationException {
+        Set<String> due = dueMembers();
+        Set<String> declared = declaredMembers();
+        for (String member : due) {
+            Checks.due("declared: " + member, declared.contains(member), true);
+        }
+        for (String member : declared) {
+            Checks.due("in the document: " + member, due.contains(member), true);
+        }
+    }
+
+    private static Set<String> dueMembers() {
+        Set<String> all = new TreeSet<>();
+        for (String line : FACE.split("\n")) {
+            if (line.startsWith("    ")) {
+                all.add(line.strip());
+            }
+        }
+        // 12 constants, the constructor and 63 methods: a promise for each but the constants.
+        Checks.due("members of the document's face", all.size(), 12 + 64);
+        return all;
+    }
+
+    private static Set<String> declaredMembers() throws ReflectiveOperationException {
+        Set<String> all = new TreeSet<>();
+        for (Field field : VirtualQueue.class.getDeclaredFields()) {
+            if (!Modifier.isPrivate(field.getModifiers())) {
+                all.add(constant(field));
+            }
+        }
+        for (Constructor<?> constructor : VirtualQueue.class.getDeclaredConstructors()) {
+            if (!Modifier.isPrivate(constructor.getModifiers())) {
+                all.add(signature(constructor, ""));
+            }
+        }
+        for (Method method : VirtualQueue.class.getDeclaredMethods()) {
+            if (!Modifier.isPrivate(method.getModifiers())) {
+                all.add(signature(method, plain(method.getReturnType()) + " "));
+            }
+        }
+        return all;
+    }
+
+    private static String constant(Field field) throws ReflectiveOperationException {
+        String value = Modifier.isStatic(field.getModifiers()) ? " = " + field.get(null) : "";
+        return modifiers(field.getModifiers()) + plain(field.getType()) + " " + field.getName() + value + ";";
+    }
+
+    private static String signature(Executable member, String answer) {
+        StringJoiner parameters = new StringJoiner(", ", "(", ")");
+        for (Parameter parameter : member.getParameters()) {
+            Checks.due(".ci/run compiles with -parameters, which keeps their names", parameter.isNamePresent(), true);
+            parameters.add(plain(parameter.getType()) + " " + parameter.getName());
+        }
+        StringJoiner thrown = new StringJoiner(", ", " throws ", "");
+        thrown.setEmptyValue("");
+        for (Class<?> type : member.getExceptionTypes()) {
+            thrown.add(plain(type));
+        }
+        return modifiers(member.getModifiers()) + answer + member.getName() + parameters + thrown + ";";
+    }
+
+    private static String modifiers(int modifiers) {
+        String text = Modifier.toString(modifiers);
+        return text.isEmpty() ? text : text + " ";
+    }
+
+    private static String plain(Class<?> type) {
+        String name = type.getTypeName();
+        return name.startsWith("java.lang.") ? name.substring("java.lang.".length()) : name;
+    }
+
+    private static void classesInside() {
         for (Class<?> inside : VirtualQueue.class.getDeclaredClasses()) {
-            Checks.due(inside + " is static", Modifier.isStatic(inside.getModifiers()), true);
-            for (Method m : inside.getDeclaredMethods()) {
-                Checks.due(inside + " has a method " + m.getName(), face.contains(m.getName()), false);
-            }
+            int modifiers = inside.getModifiers();
+            Checks.due(inside + " is static", Modifier.isStatic(modifiers), true);
+            Checks.due(inside + " is seen outside", Modifier.isPublic(modifiers) || Modifier.isProtected(modifiers), false);
         }
     }
 
-    private static void room() throws ReflectiveOperationException {
-        FaceTest made = new FaceTest();
-        VirtualQueue q = new VirtualQueue();
-        made.count(q);
-        Checks.due("a new object has " + made.elements + " elements, few enough", made.elements < MOST_ELEMENTS, true);
-        Checks.due("a new object has " + made.objects + " objects, few enough", made.objects < MOST_OBJECTS, true);
-        q.saveSnapshot(0);
-        q.saveSnapshot(1);
-        FaceTest saved = new FaceTest();
-        saved.count(q);
-        Checks.due("a snapshot has few enough elements", (saved.elements - made.elements) / 2 < MOST_ELEMENTS, true);
-        for (int k = 0; k < 9; k++) {
-            q.loadPark();
-            q.saveSnapshot(k % 2);
-        }
-        FaceTest again = new FaceTest();
-        again.count(q);
-        Checks.due("what is made once is used again", again.objects, saved.objects);
-    }
-
-    private void count(Object object) throws ReflectiveOperationException {
-        if (object == null || counted.put(object, object) != null) {
-            return;
-        }
-        objects++;
-        Class<?> type = object.getClass();
-        if (type.isArray()) {
-            elements += Array.getLength(object);
-            for (int k = 0; k < Array.getLength(object) && !type.getComponentType().isPrimitive(); k++) {
-                count(Array.get(object, k));
+    /** No other method, here or in a class inside, bears the name of a public one. */
+    private static void privateNames() {
+        Set<String> names = new TreeSet<>();
+        for (Method method : VirtualQueue.class.getMethods()) {
+            if (method.getDeclaringClass() == VirtualQueue.class) {
+                names.add(method.getName());
             }
-            return;
         }
-        for (Field f : type.getDeclaredFields()) {
-            if (!Modifier.isStatic(f.getModifiers())) {
-                elements++;
-                f.setAccessible(true);
-                if (!f.getType().isPrimitive()) {
-                    count(f.get(object));
-                }
+        for (Method method : VirtualQueue.class.getDeclaredMethods()) {
+            if (!Modifier.isPublic(method.getModifiers())) {
+                Checks.due("a private method " + method.getName(), names.contains(method.getName()), false);
+            }
+        }
+        for (Class<?> inside : VirtualQueue.class.getDeclaredClasses()) {
+            for (Method method : inside.getDeclaredMethods()) {
+                Checks.due(inside + " has a method " + method.getName(), names.contains(method.getName()), false);
             }
         }
     }
