@@ -91,6 +91,14 @@ final class Checks {
         return text.toString();
     }
 
+    static String waitlist(VirtualQueue q, int ride) {
+        StringBuilder all = new StringBuilder();
+        for (int k = 0; q.waitlistAt(ride, k) != VirtualQueue.NONE; k++) {
+            all.append(q.waitlistAt(ride, k)).append(' ');
+        }
+        return all.toString();
+    }
+
     /** All that can be seen without changing anything (but the length of the input buffer). */
     static String seen(VirtualQueue q) {
         StringBuilder all = new StringBuilder();
