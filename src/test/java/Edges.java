@@ -122,18 +122,24 @@ abstract class Edges {
     static void noSuchRide(AskWith ask) {
         noSuch("ride", Park.BUSY_RIDES, ask);
         noIndex("ride 8", Park.FULL, q -> ask.of(q, 8));
+        noIndex("ride 1 of an earlier park", Park.SHRUNK, q -> ask.of(q, 1));
+        noIndex("ride 7 of an earlier park", Park.SHRUNK, q -> ask.of(q, 7));
         isThere("ride", Park.FULL, 7, ask);
     }
 
     static void noSuchParty(AskWith ask) {
         noSuch("party", Park.BUSY_PARTIES, ask);
         noIndex("party 50", Park.FULL, q -> ask.of(q, 50));
+        noIndex("party 1 of an earlier park", Park.SHRUNK, q -> ask.of(q, 1));
+        noIndex("party 49 of an earlier park", Park.SHRUNK, q -> ask.of(q, 49));
         isThere("party", Park.FULL, 49, ask);
     }
 
     static void noSuchTicket(AskWith ask) {
         noSuch("ticket", Park.BUSY_TICKETS, ask);
         noIndex("ticket 150", Park.FULL, q -> ask.of(q, 150));
+        noIndex("ticket 0 of an earlier park", Park.SHRUNK, q -> ask.of(q, 0));
+        noIndex("ticket 149 of an earlier park", Park.SHRUNK, q -> ask.of(q, 149));
         isThere("ticket", Park.FULL, 149, ask);
         noIndex("no ticket at all", Park.SMALL, q -> ask.of(q, 0));
     }

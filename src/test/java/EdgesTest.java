@@ -11,6 +11,7 @@ public final class EdgesTest {
         QueryEdges.all();
         PlanEdges.all();
         ScriptEdges.all();
+        IndexEdges.all();
         GeneralEdges.all();
         Edges.allIsQuoted();
         Checks.end();

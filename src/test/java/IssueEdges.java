@@ -81,6 +81,19 @@ final class IssueEdges extends Edges {
         }
         says("TICKETS", "and an extension (0 at first).");
         due("of a new ticket", c.ticketExtension(0), 0);
+        VirtualQueue again = Checks.park("ride 20 50 3 0 143;tier 1 144 0 0;party 0 7;");
+        again.saveSnapshot(0);
+        again.issue(0, 0, 0);
+        again.breakDown(0);
+        again.advance(4);
+        due("extended", again.ticketExtension(0), 4);
+        again.saveSnapshot(1);
+        again.restoreSnapshot(0);
+        due("issued anew from a snapshot without tickets", Checks.ticket(again, again.issue(0, 0, 0)), "0 0 0-2 state 0 extension 0");
+        again.restoreSnapshot(1);
+        due("extended", again.ticketExtension(0), 4);
+        Checks.loadPark(again, "ride 20 50 3 0 143;tier 1 144 0 0;party 0 7;");
+        due("issued anew in a new park", Checks.ticket(again, again.issue(0, 0, 0)), "0 0 0-2 state 0 extension 0");
         says("TICKETS", "Its state is ACTIVE, USED, EXPIRED, CANCELLED or OPEN.");
         due("of a new ticket", c.ticketState(0), ACTIVE);
         VirtualQueue busy = Park.BUSY.make();

@@ -227,6 +227,32 @@ final class MoveEdges extends Edges {
         VirtualQueue present = later(withTicket(), 7);
         present.exchange(0, 1, 0);
         due("not before the present slot", present.ticketStart(1), 7);
+        // the other ride has so many places, and the ticket's own ride has many, or none that is left
+        for (int own : new int[] {6, 200}) {
+            String guests = "tier 5 144 0 0;party 0 6;party 0 1;";
+            VirtualQueue enough = exchanging("ride " + own + " 100 1 0 143;ride 6 100 1 5 9;" + guests);
+            due("just enough", enough.exchange(0, 1, 0) + " " + Checks.ticket(enough, 1), "1 0 1 5-5 state 0 extension 0");
+            stays("one place less", () -> exchanging("ride " + own + " 100 1 0 143;ride 5 100 1 0 143;" + guests),
+                    x -> x.exchange(0, 1, 0), NO_WINDOW);
+            VirtualQueue beside = exchanging("ride " + own + " 100 1 0 143;ride 6 100 1 5 9;" + guests);
+            beside.issue(1, 1, 5);
+            beside.remaining(0, 0);
+            due("one person is there already", beside.exchange(0, 1, 0) + " " + beside.ticketStart(2), "2 6");
+            VirtualQueue wide = exchanging("ride " + own + " 100 1 0 143;ride 7 100 1 5 9;" + guests);
+            wide.issue(1, 1, 5);
+            wide.remaining(0, 0);
+            due("one person is there already, but a place more", wide.exchange(0, 1, 0) + " " + wide.ticketStart(2), "2 5");
+        }
+        VirtualQueue last = exchanging("ride 6 100 1 0 143;ride 6 100 1 0 20;tier 5 144 0 0;party 0 6;");
+        due("the last slot of the other ride", last.exchange(0, 1, 20) + " " + last.ticketStart(1), "1 20");
+        stays("behind it", () -> exchanging("ride 6 100 1 0 143;ride 6 100 1 0 20;tier 5 144 0 0;party 0 6;"),
+                x -> x.exchange(0, 1, 21), NO_WINDOW);
+    }
+
+    private static VirtualQueue exchanging(String park) {
+        VirtualQueue q = Checks.park(park);
+        q.issue(0, 0, 0);
+        return q;
     }
 
     private static void exchangeServes() {

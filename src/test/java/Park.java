@@ -9,7 +9,9 @@ enum Park {
     /** BUSY when the day is over. */
     OVER,
     /** As many rides, tiers, parties, tickets, entries and bytes as there can be, a waitlist and a line that are full. */
-    FULL;
+    FULL,
+    /** SMALL, behind FULL: what an earlier park had is no longer there. */
+    SHRUNK;
 
     static final int BUSY_RIDES = 4;
     static final int BUSY_PARTIES = 5;
@@ -25,6 +27,8 @@ enum Park {
     // Ride 3 of BUSY is down, ride 1 opens in slot 5, and ride 0 closes with slot 99.
     static final int DOWN = 3;
 
+    private static final String SMALL_TEXT = "ride 10 50 2 0 143;tier 1 144 0 0;party 0 4;";
+
     private String trace;
 
     VirtualQueue make() {
@@ -32,7 +36,12 @@ enum Park {
             case NEW:
                 return new VirtualQueue();
             case SMALL:
-                return Checks.park("ride 10 50 2 0 143;tier 1 144 0 0;party 0 4;");
+                return Checks.park(SMALL_TEXT);
+            case SHRUNK:
+                VirtualQueue shrunk = full();
+                shrunk.truncateInput(0);
+                Checks.loadPark(shrunk, SMALL_TEXT);
+                return shrunk;
             case BUSY:
                 return busy();
             case OVER:

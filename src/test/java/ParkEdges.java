@@ -264,6 +264,8 @@ final class ParkEdges extends Edges {
         for (int tier : new int[] {-1, 2, 4, MAX, MIN}) {
             noIndex("tier " + tier, Park.BUSY, x -> x.addParty(tier, 1));
         }
+        noIndex("tier 1 of an earlier park", Park.SHRUNK, x -> x.addParty(1, 1));
+        noIndex("tier 3 of an earlier park", Park.SHRUNK, x -> x.addParty(3, 1));
         noIndex("tier 4, though it is full", Park.FULL, x -> x.addParty(4, 1));
         noIndex("the tier comes before the size", Park.BUSY, x -> x.addParty(2, 0));
         noIndex("the tier comes before the size", Park.BUSY, x -> x.addParty(-1, 13));

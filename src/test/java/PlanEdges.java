@@ -40,6 +40,13 @@ final class PlanEdges extends Edges {
         due("the only order of five", plan(only, 0, 31), "4: 1 0 3 2 4");
         VirtualQueue shorter = Checks.park("ride 20 50 5 0 143;ride 20 50 1 0 143;ride 20 50 1 5 5;" + guests);
         due("the longest one just before slot 5", plan(shorter, 0, 7), "6: 0 2 1");
+        // ride 1 has room in slot 0 and from slot 3 on: 0-1 and 3, or 0 and 1-2
+        VirtualQueue sooner = Checks.park("ride 20 50 2 0 143;ride 5 100 1 0 143;tier 5 144 0 0;party 0 5;party 0 5;party 0 5;");
+        sooner.issue(1, 1, 1);
+        sooner.issue(2, 1, 2);
+        due("a later order that ends one slot sooner", plan(sooner, 0, 3), "2: 1 0");
+        sooner.cancel(1);
+        due("now both end alike", plan(sooner, 0, 3), "2: 0 1");
         says("P55", "Returns the end of the last window;");
         due("least", Checks.park("ride 20 50 1 0 143;" + guests).bestFinish(0, 1), 0);
         due("beyond 143", Checks.park("ride 20 50 24 143 143;" + guests).bestFinish(0, 1), 166);

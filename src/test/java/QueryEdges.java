@@ -337,6 +337,13 @@ final class QueryEdges extends Edges {
             all.issue(party, 0, 90 + party);
         }
         due("50 slots alike", all.peakSlot(0), 90);
+        VirtualQueue one = Checks.park("ride 12 100 1 0 143;tier 5 144 0 0;party 0 1;party 0 1;party 0 2;");
+        one.issue(0, 0, 77);
+        due("one person", one.peakSlot(0), 77);
+        one.issue(1, 0, 76);
+        due("one person each", one.peakSlot(0), 76);
+        one.issue(2, 0, 78);
+        due("two persons", one.peakSlot(0), 78);
         says("P53", "`ride`: index of a ride");
         stays("the first", Park.BUSY, x -> x.peakSlot(0), 4);
         stays("the last", Park.BUSY, x -> x.peakSlot(3), 0);

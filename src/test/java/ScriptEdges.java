@@ -49,6 +49,7 @@ final class ScriptEdges extends Edges {
         likeEach(Park.NEW, new int[] {0, 49}, new int[] {0, 7}, new int[] {0, 149});
         likeEach(Park.SMALL, new int[] {0, 1}, new int[] {0, 1}, new int[] {0});
         likeEach(Park.FULL, new int[] {0, 49}, new int[] {0, 7}, new int[] {0, 149});
+        likeEach(Park.SHRUNK, new int[] {0, 1, 49}, new int[] {0, 1, 7}, new int[] {0, 149});
         says("INPUT", "an entry succeeds if this does not throw an exception and returns neither false nor a negative number.");
         VirtualQueue q = with(Park.SMALL.make(), "at 0 issue 0 0 0;at 0 redeem 0;at 0 cancel 0;at 0 wait 0 0;at 0 wait 0 0;at 0 standby 0 1;"
                 + "at 0 break 0;at 0 break 0;at 0 repair 0;at 0 repair 0;at 0 issue 1 0 0;at 0 standby 1 1;");
@@ -282,6 +283,7 @@ final class ScriptEdges extends Edges {
         VirtualQueue back = Park.OVER.make();
         due("when the day is over", back.restoreSnapshot(1) + " " + back.now(), "true 2");
         due("the day goes on", back.advance(142), 144);
+        snapshotOfTickets();
         says("P62", "The snapshot stays in its slot.");
         for (int k = 0; k < 3; k++) {
             later(q, 9);
@@ -325,6 +327,30 @@ final class ScriptEdges extends Edges {
         due("a park with an error leaves them", again.restoreSnapshot(0), true);
         again.loadPark();
         due("a park takes them away", again.restoreSnapshot(0) || again.restoreSnapshot(1), false);
+    }
+
+    /** All of a ticket comes back, also where another ticket has had its number, or the ticket has been moved. */
+    private static void snapshotOfTickets() {
+        VirtualQueue q = Checks.park("ride 20 50 3 0 143;ride 20 50 2 0 143;tier 5 144 0 0;party 0 4;party 0 5;party 0 6;");
+        q.saveSnapshot(0);
+        q.issue(0, 0, 5);
+        q.issue(1, 1, 0);
+        q.breakDown(1);
+        q.advance(1);
+        q.saveSnapshot(1);
+        String first = "0 0 5-7 state 0 extension 0";
+        String second = "1 1 0-2 state 0 extension 1";
+        due("before", Checks.ticket(q, 0) + ", " + Checks.ticket(q, 1), first + ", " + second);
+        q.restoreSnapshot(0);
+        due("without tickets", q.ticketCount(), 0);
+        q.cancel(q.issue(2, 1, 9));
+        q.redeem(q.issue(0, 0, 0));
+        q.restoreSnapshot(1);
+        due("other tickets had these numbers", Checks.ticket(q, 0) + ", " + Checks.ticket(q, 1), first + ", " + second);
+        due("moved", q.moveTicket(0, 30), 30);
+        q.restoreSnapshot(1);
+        due("in its old window again", Checks.ticket(q, 0), first);
+        due("charged to its old slot again", q.remaining(0, 5) + " " + q.remaining(0, 30), "6 10");
     }
 
     private static void format() {

@@ -101,6 +101,17 @@ final class SlotEdges extends Edges {
         closed.advance(1);
         due("down behind its last slot", Checks.ticket(closed, 0), "0 0 5-8 state 0 extension 1");
         says("A SLOT PASSES", "if its extension is less than the extension limit, its end and its extension increase by 1;");
+        VirtualQueue overlap = Checks.park("ride 20 50 3 0 143;ride 20 50 3 0 143;tier 5 144 0 0;party 0 4;extension 9;");
+        overlap.issue(0, 0, 0);
+        overlap.issue(0, 1, 3);
+        overlap.breakDown(0);
+        overlap.advance(3);
+        due("into another window of the party", Checks.ticket(overlap, 0) + ", " + Checks.ticket(overlap, 1),
+                "0 0 0-5 state 0 extension 3, 0 1 3-5 state 0 extension 0");
+        overlap.breakDown(1);
+        overlap.advance(1);
+        due("both", Checks.ticket(overlap, 0) + ", " + Checks.ticket(overlap, 1),
+                "0 0 0-6 state 0 extension 4, 0 1 3-6 state 0 extension 1");
         due("limit 1, once", ticketAfter(1, 5, 6), "5-8 0 1");
         due("limit 2, once", ticketAfter(2, 5, 6), "5-8 0 1");
         due("limit 2, twice", ticketAfter(2, 5, 7), "5-9 0 2");
@@ -184,6 +195,42 @@ final class SlotEdges extends Edges {
         due("a merge group, one slot", q.longestWait(2) + " " + q.averageWait(2), "1 1.0");
         q.advance(141);
         due("from slot 0 to 143", q.longestWait(1) + " " + q.averageWait(1), "143 143.0");
+        // three groups, one a slot from slot 5 on, that have joined in the slots 0, 2 and 4: 5, 4 and 3 slots
+        VirtualQueue standby = Checks.park("ride 12 50 1 5 143;");
+        for (int slot = 0; slot < 5; slot += 2) {
+            due("joins in slot " + slot, standby.now() + " " + standby.joinStandby(0, 12), slot + " " + (slot / 2 + 1));
+            standby.advance(slot < 4 ? 2 : 1);
+        }
+        String[] due = {"5 5.0", "5 4.5", "5 4.0", "5 4.0"};
+        for (int k = 0; k < 4; k++) {
+            standby.advance(1);
+            due("standby groups of different slots, " + k, standby.longestWait(0) + " " + standby.averageWait(0), due[k]);
+        }
+        mergeWaits();
+    }
+
+    /** Three parties with OPEN tickets join in the slots 1, 3 and 4, and board in the slots 5, 6 and 7. */
+    private static void mergeWaits() {
+        VirtualQueue q = Checks.park("ride 12 50 1 0 143;ride 200 100 24 0 143;tier 5 144 0 0;party 0 12;party 0 12;party 0 12;extension 0;");
+        for (int party = 0; party < 3; party++) {
+            q.issue(party, 1, 0);
+        }
+        q.breakDown(0);
+        q.breakDown(1);
+        int[] joins = {1, 3, 4};
+        for (int ticket = 0; ticket < 3; ticket++) {
+            q.advance(joins[ticket] - q.now());
+            q.repair(0);
+            due("joins in slot " + joins[ticket], q.redeemOpen(ticket, 0), true);
+            q.breakDown(0);
+        }
+        q.advance(1);
+        q.repair(0);
+        String[] due = {"4 4.0", "4 3.5", "4 " + 10.0 / 3, "4 " + 10.0 / 3};
+        for (int k = 0; k < 4; k++) {
+            q.advance(1);
+            due("merge groups of different slots, " + k, q.longestWait(0) + " " + q.averageWait(0), due[k]);
+        }
     }
 
     private static void advance() {
@@ -341,6 +388,9 @@ final class SlotEdges extends Edges {
         due("the day's last slot", last.setShare(0, 49), NOT_ALLOWED);
         last.advance(1);
         due("when the day is over", last.setShare(0, 0), 0);
+        for (int[] c : new int[][] {{200, 99, 197}, {200, 99, 198}, {3, 67, 2}, {3, 66, 2}, {199, 1, 1}, {199, 1, 2}}) {
+            roundedShare(c[0], c[1], c[2]);
+        }
         VirtualQueue cancelled = charged();
         cancelled.cancel(0);
         due("a CANCELLED ticket is not charged", cancelled.setShare(0, 20), 0);
@@ -354,6 +404,34 @@ final class SlotEdges extends Edges {
         says("P44", "Throws `IllegalArgumentException` if share is out of range");
         ranges("share", 0, 100, (x, share) -> x.setShare(0, share));
         noArgument("when the day is over", Park.OVER, x -> x.setShare(0, 101));
+    }
+
+    /** So many persons are charged to a slot; is a share good that is planned for just as many, or is it one too little? */
+    private static void roundedShare(int capacity, int share, int persons) {
+        Maker maker = () -> {
+            StringBuilder parties = new StringBuilder();
+            for (int rest = persons; rest > 0; rest -= 12) {
+                parties.append("party 0 ").append(Math.min(rest, 12)).append(';');
+            }
+            VirtualQueue q = Checks.park("ride " + capacity + " 100 1 0 0;tier 5 144 0 0;" + parties);
+            for (int party = 0; party < q.partyCount(); party++) {
+                q.issue(party, 0, 0);
+            }
+            due("charged", capacity - q.remaining(0, 0), persons);
+            return q;
+        };
+        int planned = capacity * share / 100;
+        String what = share + " percent of " + capacity + " for " + persons;
+        if (planned < persons) {
+            stays(what, maker, q -> q.setShare(0, share), NOT_ALLOWED);
+        } else {
+            VirtualQueue q = maker.make();
+            due(what, q.setShare(0, share) + " " + q.remaining(0, 0), "0 " + (planned - persons));
+        }
+        int less = (100 * persons - 1) / capacity;
+        due("one percent less is too little", less * capacity / 100 < persons && (less + 1) * capacity / 100 >= persons, true);
+        stays(less + " percent of " + capacity + " for " + persons, maker, q -> q.setShare(0, less), NOT_ALLOWED);
+        due(less + 1 + " percent of " + capacity + " for " + persons, maker.make().setShare(0, less + 1), 0);
     }
 
     private static void setExtensionLimit() {

@@ -189,6 +189,32 @@ final class TextEdges extends Edges {
         parkFails("a capital letter", "Extension 7;", SYNTAX, 0);
         parkFails("capital letters behind", "extensioN 7;", SYNTAX, 0);
         parkFails("a word from a to z", "az 7;", SYNTAX, 0);
+        for (String text : new String[] {"ride 1 0 1 0 0;", "tier 1 1 0 0;", "extension 1;"}) {
+            for (int at = 0; at < text.indexOf(' '); at++) {
+                parkFails("another letter in " + text, text.substring(0, at) + 'q' + text.substring(at + 1), SYNTAX, 0);
+            }
+        }
+        for (int at = 13; at < 18; at++) {
+            StringBuilder text = new StringBuilder("tier 1 1 0 0;party 0 1;");
+            text.setCharAt(at, 'q');
+            parkFails("another letter in party", text.toString(), SYNTAX, 13);
+        }
+        for (String action : new String[] {"issue 0 0 0;", "redeem 0;", "cancel 0;", "wait 0 0;", "standby 0 1;", "break 0;", "repair 0;"}) {
+            scriptIs("the word itself", "at 5 " + action, 1);
+            for (int at = 0; at < action.indexOf(' '); at++) {
+                scriptFails("another letter in " + action, "at 5 " + action.substring(0, at) + 'q' + action.substring(at + 1), SYNTAX, 5);
+            }
+        }
+        scriptFails("another letter in at", "qt 5 break 0;", SYNTAX, 0);
+        scriptFails("another letter in at", "aq 5 break 0;", SYNTAX, 0);
+        for (char letter : new char[] {'a', 'b', 'y', 'z'}) {
+            parkFails("a letter " + letter + " behind", "ride" + letter + " 1 0 1 0 0;", SYNTAX, 0);
+            parkFails("a letter " + letter + " before", letter + "ride 1 0 1 0 0;", SYNTAX, 0);
+            parkFails("a letter " + letter + " between", "ri" + letter + "de 1 0 1 0 0;", SYNTAX, 0);
+            scriptFails("a letter " + letter + " behind", "at 5 break" + letter + " 0;", SYNTAX, 5);
+            parkFails("ten letters, the last " + letter, "extension" + letter + " 1;", SYNTAX, 0);
+            parkFails("a letter " + letter + " behind a number", "extension 1" + letter + ";", SYNTAX, 11);
+        }
     }
 
     private static void numbers() {
@@ -403,6 +429,48 @@ final class TextEdges extends Edges {
         due("script", q.scriptLength(), 0);
         due("snapshot 0", q.restoreSnapshot(0), false);
         due("snapshot 1", q.restoreSnapshot(1), false);
+        parkEmptiesAllRides();
+        parkEmptiesScript();
+    }
+
+    /** All that the eight rides have, on each of them. */
+    private static void parkEmptiesAllRides() {
+        String park = "ride 20 50 2 0 143;".repeat(8) + "tier 5 144 0 0;" + "party 0 4;".repeat(16);
+        VirtualQueue q = Checks.park(park);
+        for (int ride = 0; ride < 8; ride++) {
+            q.issue(ride, ride, 0);
+            q.redeem(ride);
+            q.joinStandby(ride, 9);
+        }
+        q.advance(1);
+        for (int ride = 0; ride < 8; ride++) {
+            q.redeem(q.issue(8 + ride, ride, 1));
+            q.joinStandby(ride, 9);
+            q.breakDown(ride);
+            q.joinWaitlist(ride, ride);
+            due("ride " + ride + " before", q.mergePersons(ride) + " " + q.standbyPersons(ride) + " " + q.boarded(ride, true) + " "
+                    + q.boarded(ride, false) + " " + Checks.waitlist(q, ride) + q.isDown(ride), "4 9 4 9 " + ride + " true");
+        }
+        Checks.loadPark(q, park);
+        for (int ride = 0; ride < 8; ride++) {
+            due("ride " + ride, q.mergePersons(ride) + " " + q.standbyPersons(ride) + " " + q.boarded(ride, true) + " "
+                    + q.boarded(ride, false) + " " + Checks.waitlist(q, ride) + q.isDown(ride), "0 0 0 0 false");
+        }
+        unchanged("all else", Probe.trace(q), Probe.trace(Checks.park(park)));
+    }
+
+    /** A script of which some entries have been executed, or all. */
+    private static void parkEmptiesScript() {
+        for (int slots = 1; slots <= 3; slots++) {
+            VirtualQueue q = Park.SMALL.make();
+            Checks.loadScript(q, "at 0 standby 0 1;at 1 standby 0 1;at 2 standby 0 1;");
+            due("executed", q.runScript(slots), slots);
+            Checks.loadPark(q, "ride 20 50 1 0 143;");
+            due("script after " + slots + " entries", q.scriptLength(), 0);
+            due("nothing of it is run", q.runScript(9) + " " + q.boarded(0, false), "0 0");
+            Checks.loadScript(q, "at 9 standby 0 5;");
+            due("a new script", q.scriptLength() + " " + q.runScript(1) + " " + q.boarded(0, false), "1 1 5");
+        }
     }
 
     private static String withoutText(String trace) {

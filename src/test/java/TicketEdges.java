@@ -155,7 +155,7 @@ final class TicketEdges extends Edges {
         for (int k = 0; k < 5; k++) {
             due("five tickets, index " + k, five.itinerary(0, k), order[k]);
         }
-        noEdge("P33", "on a tie by index.", "two ACTIVE tickets of a party have no slot in common, so no start either");
+        noEdge("P33", "on a tie by index.", "no window is given in which another ACTIVE ticket of the party starts, so no two have the same start");
         says("P33", "`party`: index of a party");
         stays("the first of 50", Park.FULL, q -> q.itinerary(0, 0), 0);
         stays("the last of 50", Park.FULL, q -> q.itinerary(49, 2), 149);
