@@ -8,6 +8,7 @@ final class IndexEdges extends Edges {
             + "tier 5 144 0 5;tier 3 40 0 1;tier 4 20 0 9;party 0 9;party 1 5;party 2 4;party 1 7;party 2 11;extension 9;";
 
     static void all() {
+        pauses();
         joint();
         move();
         moveExtended();
@@ -20,6 +21,24 @@ final class IndexEdges extends Edges {
         served();
         waitlists();
         scripts();
+    }
+
+    private static void pauses() {
+        says("TICKETS", "or fewer slots than the pause have passed since the slot in which a ticket was last issued to it");
+        VirtualQueue q = Checks.park("ride 20 50 1 0 143;ride 20 50 1 0 143;ride 20 50 1 0 143;tier 5 144 3 0;tier 5 144 5 0;"
+                + "party 0 1;party 1 1;party 0 1;party 1 1;");
+        int[] issued = {2, 5, 7, 4};
+        int[] again = {5, 10, 10, 9};
+        for (int slot = 0; slot < 12; slot++) {
+            for (int party = 0; party < 4; party++) {
+                due("party " + party + " in slot " + slot, q.nextWindow(party, 1, 143), slot > issued[party] && slot < again[party] ? NOT_ALLOWED : 143);
+                if (slot == issued[party]) {
+                    due("its ticket", q.issue(party, 0, 100 + party) >= 0, true);
+                    due("party " + party + " then", q.nextWindow(party, 1, 143), NOT_ALLOWED);
+                }
+            }
+            q.advance(1);
+        }
     }
 
     private static void joint() {
@@ -44,6 +63,23 @@ final class IndexEdges extends Edges {
         jointIs(1, 3, 1, 0, 3);
         stays("13 of 12", maker, q -> q.issueJoint(0, 2, 1, 0), NO_WINDOW);
         stays("13 of 12", maker, q -> q.issueJoint(2, 0, 1, 0), NO_WINDOW);
+        jointWindows();
+    }
+
+    /** Party 3 has 30-31 and party 1 has 33-35, with the tickets 1 and 2; party 0 has 20-22. */
+    private static void jointWindows() {
+        says("P19", "and whose window has no slot in common with the window of an ACTIVE ticket of one of them.");
+        int[][] cases = {{6, 6}, {20, 20}, {25, 25}, {26, 36}, {28, 36}, {32, 36}, {36, 36}};
+        for (int[] c : cases) {
+            for (int[] parties : new int[][] {{1, 3}, {3, 1}}) {
+                VirtualQueue q = Checks.park(MIXED);
+                q.issue(0, 1, 20);
+                q.issue(3, 0, 30);
+                q.issue(1, 1, 33);
+                due("from " + c[0], q.issueJoint(parties[0], parties[1], 2, c[0]), 3);
+                due("from " + c[0], q.ticketStart(3) + " " + q.ticketStart(4), c[1] + " " + c[1]);
+            }
+        }
     }
 
     private static void jointIs(int party, int other, int ride, int earliest, int start) {
@@ -157,6 +193,10 @@ final class IndexEdges extends Edges {
         VirtualQueue less = exchangeable();
         less.setShare(1, 46);
         due("13 are planned, 9 are taken", less.exchange(3, 1, 20) + " " + less.ticketStart(4), "4 21");
+        VirtualQueue beside = Checks.park(MIXED);
+        beside.issue(1, 2, 12);
+        beside.issue(0, 1, 1);
+        due("ticket 1 leaves 3 places in slot 3 for party 1", beside.exchange(0, 1, 1) + " " + beside.ticketStart(2), "2 4");
         says("P21", "and so that the old ticket does not block a window.");
         for (int earliest = 10; earliest <= 16; earliest++) {
             exchanges(earliest, earliest);
@@ -265,6 +305,18 @@ final class IndexEdges extends Edges {
             due("ride 1, size " + size, q.forecastStandby(1, size), 1);
             due("ride 2, size " + size, q.forecastStandby(2, size), size <= 2 ? 1 : 2);
         }
+        // 6 persons do not board before the standby line, so 4 of it come first, then these 6, then 5, and then the 9
+        VirtualQueue second = Checks.park("ride 10 50 1 0 143;ride 10 50 1 0 143;ride 200 100 1 0 143;tier 5 144 0 0;party 0 6;party 0 5;extension 0;");
+        second.issue(0, 2, 0);
+        second.issue(1, 2, 0);
+        second.breakDown(2);
+        second.advance(1);
+        second.redeemOpen(0, 1);
+        second.redeemOpen(1, 1);
+        second.joinStandby(1, 4);
+        second.joinStandby(1, 9);
+        due("behind the two lines of ride 1", second.forecastStandby(1, 1) + " " + second.forecastStandby(1, 2), "2 3");
+        due("the lines of ride 0 are empty", second.forecastStandby(0, 10), 0);
         VirtualQueue hours = Checks.park("ride 12 50 1 7 20;ride 9 50 1 5 30;ride 6 50 1 9 10;");
         due("the first slots", hours.forecastStandby(0, 1) + " " + hours.forecastStandby(1, 1) + " " + hours.forecastStandby(2, 1), "7 5 9");
         due("sizes", hours.forecastStandby(0, 12) + " " + hours.forecastStandby(1, 10) + " " + hours.forecastStandby(2, 7), "7 -1 -1");
@@ -275,7 +327,14 @@ final class IndexEdges extends Edges {
         due("behind two groups", hours.forecastStandby(0, 1) + " " + hours.forecastStandby(1, 3) + " " + hours.forecastStandby(2, 1), "8 6 -1");
         hours.advance(10);
         due("in slot 10", hours.forecastStandby(0, 1) + " " + hours.forecastStandby(1, 3) + " " + hours.forecastStandby(2, 1), "0 0 -1");
-        hours.advance(11);
+        says("P48", "Returns the longest waiting time of the groups that a ride has boarded (both lines).");
+        hours.joinStandby(1, 1);
+        hours.advance(1);
+        due("each ride by itself", hours.longestWait(0) + " " + hours.longestWait(1) + " " + hours.longestWait(2), "7 6 10");
+        says("P47", "Returns the average waiting time of all groups that a ride has boarded (both lines).");
+        due("each ride by itself", hours.averageWait(0) + " " + hours.averageWait(1) + " " + hours.averageWait(2), "7.0 " + 11 / 3.0 + " 9.5");
+        says("P49", "NONE if it would not board on this day.");
+        hours.advance(10);
         due("in slot 21", hours.forecastStandby(0, 1) + " " + hours.forecastStandby(1, 3) + " " + hours.forecastStandby(2, 1), "-1 0 -1");
     }
 
@@ -324,6 +383,11 @@ final class IndexEdges extends Edges {
         }
         due("the first may come until slot 3", first.mostServed(1) + ": " + first.servedSet(1), "3: 7");
         due("the last may", last.mostServed(1) + ": " + last.servedSet(1), "3: 11");
+        VirtualQueue turned = Checks.park(park + "party 0 6;party 1 6;party 1 6;party 1 6;");
+        for (int party : new int[] {1, 2, 3, 0}) {
+            turned.joinWaitlist(party, 1);
+        }
+        due("party 0, the last to join, may", turned.mostServed(1) + ": " + turned.servedSet(1), "3: 11");
         due("nobody waits for ride 0", last.mostServed(0) + ": " + last.servedSet(0), "0: 0");
     }
 
