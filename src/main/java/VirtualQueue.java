@@ -834,8 +834,9 @@ public final class VirtualQueue {
         int count;
 
         Line(int most) {
-            size = new int[most];
-            joined = new int[most];
+            int places = Math.max(most, 0);
+            size = new int[places];
+            joined = new int[places];
         }
 
         void join(int persons, int slot) {
@@ -1020,7 +1021,7 @@ public final class VirtualQueue {
             }
         }
 
-        /** Fills a row with the slots that ACTIVE tickets of a party (and another, or NONE) block, all but one (or NONE). */
+        /** Fills a row with the slots that ACTIVE tickets of a party, and of another (or NONE), block; one does not. */
         void fillTaken(boolean[] row, int party, int other, int except) {
             for (int slot = 0; slot < row.length; slot++) {
                 row[slot] = false;
